@@ -37,6 +37,11 @@ public final class FaultsTest {
         dueRight("steal1");
         dueFault("steal1 2", 7, 0);
         dueFault("stealcars", 0, 0);
+        dueFault("steala 1", 0, 0);
+        dueFault("stealz 1", 0, 0);
+        dueFault("steal` 1", 5, 0);
+        dueFault("steal{ 1", 5, 0);
+        dueFault("steal 1: 1", 7, 0);
         dueFault("STEAL 1", 0, 0);
         dueFault("cars", 0, 0);
         dueFault("1", 0, 0);

@@ -562,6 +562,9 @@ public final class PromisesTest {
         due("15: none at START", x.alike(0, 3, 0, 1, 0), -2);
         x.start(1);
         due("15: none may be asked", x.alike(0, 3, 0, 1, 0), 0);
+        x.start(8);
+        x.book(0, 3, 0, 6);
+        due("15: one that is equal", x.alike(0, 3, 0, 1, 1), 2);
         due("15: like RINGS", x.alike(0, 0, 0, 1, 0), -1);
         due("15: RING 4", x.alike(0, 4, 0, 1, 0), -1);
         due("15: DEED 4", x.alike(0, 3, 4, 1, 0), -1);
@@ -772,6 +775,11 @@ public final class PromisesTest {
         GuardedStreets y = new GuardedStreets();
         y.street(1, 1, true);
         due("22: none of RING 3", y.like(0), -2);
+        GuardedStreets z = new GuardedStreets();
+        z.street(5, 5, false);
+        z.street(5, 5, true);
+        z.street(6, 5, false);
+        due("22: STREET 0 is as good", z.like(1), 0);
     }
 
     private static void deeds() {
@@ -909,7 +917,15 @@ public final class PromisesTest {
         x.book(0, 3, 0, 1);
         due("27: above that", x.towns(0, 0, 1, 60), 0);
         law(x, "steal 4500 if guard = 0; steal 1000");
-        due("27: one town", x.towns(1, 0, 1, 1), oneTown());
+        due("27: one town", x.towns(1, 0, 1, 1), townsByHand(x, 1, 0, 1, 1));
+        book(x, 0, 1, 0, 6, 5, 2, 1);
+        book(x, 3, 1, 0, 1, 3, 2, 1);
+        law(x, "steal 4700 - 1300 * guard - 90 * week + 77 * street");
+        for (int seed = 0; seed < 40; seed++) {
+            int k = 1 + seed % 2;
+            due("27: towns of seed " + seed, x.towns(2, seed, k, 7), townsByHand(x, 2, seed, k, 7));
+        }
+        due("27: towns of the greatest seed", x.towns(2, MOST, 2, 60), townsByHand(x, 2, MOST, 2, 60));
         due("27: k 2 has START - k", x.towns(0, 0, 2, 1), 0);
         due("27: START - k below 0", x.towns(0, 0, 4, 1), -2);
         due("27: k 0", x.towns(0, 0, 0, 1), -1);
@@ -917,7 +933,7 @@ public final class PromisesTest {
         due("27: n 0", x.towns(0, 0, 1, 0), -1);
         due("27: n 61", x.towns(0, 0, 1, 61), -1);
         due("27: seed -1", x.towns(0, -1, 1, 1), -1);
-        due("27: LAW 2", x.towns(2, 0, 1, 1), -1);
+        due("27: LAW 3", x.towns(3, 0, 1, 1), -1);
         due("27: wild", x.towns(LEAST, LEAST, MOST, MOST), -1);
         book(x, 0, 258, 0, 5, 2);
         book(x, 3, 258, 0, 1, 1);
@@ -926,20 +942,26 @@ public final class PromisesTest {
         due("27: START + k - 1 above 259", x.towns(0, 7, 2, 3), -2);
     }
 
-    /** By the draws themselves, with all five STREETS of towns(): WEEK 2 without a MAN, WEEK 3 with one at 0. */
-    private static int oneTown() {
-        long x = 0;
-        int[][] deeds = new int[2][5];
-        for (int week = 0; week < 2; week++) {
-            for (int s = 0; s < 5; s++) {
-                x = (x * 1103515245L + 12345) % 2147483648L;
-                int expected = week == 1 && s == 0 ? 1000 : 4500;
-                deeds[week][s] = expected / 1000 + (x / 65536 % 1000 < expected % 1000 ? 1 : 0);
+    /** TOWNS by the draws themselves, with the five STREETS of towns() and START 3. */
+    private static int townsByHand(GuardedStreets g, int law, int seed, int k, int n) {
+        long x = seed;
+        int notAbove = 0;
+        for (int i = 0; i < n; i++) {
+            long guarded = 0;
+            long others = 0;
+            for (int week = 3 - k; week < 3 + k; week++) {
+                for (int s = 0; s < 5; s++) {
+                    x = (x * 1103515245L + 12345) % 2147483648L;
+                    int expected = g.by(law, s, week, 4);
+                    long deeds = expected / 1000 + (x / 65536 % 1000 < expected % 1000 ? 1 : 0);
+                    guarded += s == 0 ? week < 3 ? -deeds : deeds : 0;
+                    others += s > 2 ? week < 3 ? -deeds : deeds : 0;
+                }
             }
+            long thousandths = Math.floorDiv(1000 * (2 * guarded - others), 2L * k);
+            notAbove += thousandths <= g.differ(0, 3, 0, 3, k, 2) ? 1 : 0;
         }
-        int guarded = deeds[1][0] - deeds[0][0];
-        int others = deeds[1][3] + deeds[1][4] - deeds[0][3] - deeds[0][4];
-        return 2 * guarded - others <= 2 * -4 ? 1 : 0;
+        return notAbove;
     }
 
     private static void plan() {
