@@ -867,10 +867,10 @@ public final class GuardedStreets {
         private static final int MOST_DIGITS = 5;
         private static final int KNOWN_WORDS = 15;
 
-        private final int[] sorts = new int[TAPE + 1];
-        private final int[] worths = new int[TAPE + 1];
-        private final int[] places = new int[TAPE + 1];
-        private int count = 0;
+        final int[] sorts = new int[TAPE + 1];
+        final int[] worths = new int[TAPE + 1];
+        final int[] places = new int[TAPE + 1];
+        int count = 0;
         private byte[] text = null;
         private int length = 0;
         private int at = 0;
@@ -883,19 +883,7 @@ public final class GuardedStreets {
             for (int i = 0; i < TAPE && at < length; i++) {
                 cutNext();
             }
-        }
-
-        /** Behind the last sign stands the end. */
-        int sortAt(int sign) {
-            return sign >= 0 && sign < count && sign < sorts.length ? sorts[sign] : END;
-        }
-
-        int worthAt(int sign) {
-            return sign >= 0 && sign < count && sign < worths.length ? worths[sign] : 0;
-        }
-
-        int placeAt(int sign) {
-            return sign >= 0 && sign < count && sign < places.length ? places[sign] : length;
+            add(END, 0, length);
         }
 
         private void cutNext() {
@@ -1029,10 +1017,11 @@ public final class GuardedStreets {
         private static final int TOO_MANY = 4;
 
         private final Signs signs = new Signs();
-        /** The sign that is looked at, its sort and what it is worth. */
+        /** The sign that is looked at, its sort, what it is worth, its first byte's place. */
         private int sign = 0;
         private int sort = Signs.END;
         private int worth = 0;
+        private int place = 0;
         private int fault = 0;
         private int weight = 0;
         private final int[] steps = new int[TAPE];
@@ -1066,15 +1055,18 @@ public final class GuardedStreets {
         }
 
         private void goTo(int newSign) {
-            sign = newSign;
-            sort = signs.sortAt(sign);
-            worth = signs.worthAt(sign);
+            if (newSign >= 0 && newSign < signs.count && newSign <= TAPE) {
+                sign = newSign;
+                sort = signs.sorts[sign];
+                worth = signs.worths[sign];
+                place = signs.places[sign];
+            }
         }
 
         /** Behind the first FAULT nothing is looked at any more, and what else seems wrong only follows from it. */
         private void fail(int kind) {
             if (fault == 0) {
-                fault = 1 + 8 * signs.placeAt(sign) + kind;
+                fault = 1 + 8 * place + kind;
             }
             sort = Signs.STRANGE;
         }
@@ -1126,30 +1118,10 @@ public final class GuardedStreets {
         }
 
         private void readFact(int depth) {
-            if (sort != Signs.NOT && sort != Signs.OPENS) {
-                readComparison();
-            } else if (depth >= MOST_DEEP) {
-                fail(TOO_DEEP);
-            } else if (sort == Signs.NOT) {
-                goTo(sign + 1);
-                readFact(depth + 1);
-                add(NEGATED);
-            } else {
-                goTo(sign + 1);
-                readTest(depth + 1);
-                readCloses();
+            if (sort == Signs.NOT || sort == Signs.OPENS) {
+                readDeeper(depth);
+                return;
             }
-        }
-
-        private void readCloses() {
-            if (sort == Signs.CLOSES) {
-                goTo(sign + 1);
-            } else {
-                fail(OUT_OF_PLACE);
-            }
-        }
-
-        private void readComparison() {
             readSum();
             int comparison = worth;
             if (sort != Signs.COMPARES) {
@@ -1161,6 +1133,24 @@ public final class GuardedStreets {
                 goTo(sign + 1);
                 readSum();
                 add(comparison);
+            }
+        }
+
+        private void readDeeper(int depth) {
+            if (depth >= MOST_DEEP) {
+                fail(TOO_DEEP);
+            } else if (sort == Signs.NOT) {
+                goTo(sign + 1);
+                readFact(depth + 1);
+                add(NEGATED);
+            } else {
+                goTo(sign + 1);
+                readTest(depth + 1);
+                if (sort == Signs.CLOSES) {
+                    goTo(sign + 1);
+                } else {
+                    fail(OUT_OF_PLACE);
+                }
             }
         }
 
