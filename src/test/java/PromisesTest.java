@@ -57,27 +57,6 @@ public final class PromisesTest {
         return Due.law(x, text);
     }
 
-    /** STREET 0 with a house, 1 BESIDE it, 2 BESIDE 1, 3 and 4 apart; NOW is the last WEEK. */
-    private static GuardedStreets fiveStreets() {
-        GuardedStreets x = new GuardedStreets();
-        x.clock(259);
-        x.street(100, 10, true);
-        x.street(50, 20, false);
-        x.street(60, 30, false);
-        x.street(40, 5, false);
-        x.street(41, 7, false);
-        x.beside(0, 1, true);
-        x.beside(1, 2, true);
-        return x;
-    }
-
-    /** DEEDS of one sort in a STREET, from a WEEK on. */
-    private static void book(GuardedStreets x, int street, int from, int deed, int... numbers) {
-        for (int i = 0; i < numbers.length; i++) {
-            x.book(street, from + i, deed, numbers[i]);
-        }
-    }
-
     private static void aNewObject() {
         GuardedStreets x = new GuardedStreets();
         due("NONE", GuardedStreets.NONE, -1);
@@ -159,7 +138,7 @@ public final class PromisesTest {
     }
 
     private static void ring() {
-        GuardedStreets x = fiveStreets();
+        GuardedStreets x = Made.fiveStreets();
         int[] rings = {0, 1, 2, 3, 3};
         for (int s = 0; s < 5; s++) {
             due("5: ring(" + s + ")", x.ring(s), rings[s]);
@@ -294,7 +273,7 @@ public final class PromisesTest {
     }
 
     private static void by() {
-        GuardedStreets x = fiveStreets();
+        GuardedStreets x = Made.fiveStreets();
         x.start(3);
         law(x, "steal 5000 if guard = 0; steal 1000 if house = 1; moves 250; told 900");
         int[] without = {5000, 0, 250, 900, 4500};
@@ -322,7 +301,7 @@ public final class PromisesTest {
     }
 
     private static void byWords() {
-        GuardedStreets x = fiveStreets();
+        GuardedStreets x = Made.fiveStreets();
         x.start(10);
         String[] words = {"cars", "wish", "guard", "ring", "week", "since", "house", "street"};
         int[][] dueAtTwelve = {{100, 10, 1, 0, 12, 2, 1, 0}, {60, 30, 0, 2, 12, 2, 0, 2}};
@@ -413,7 +392,7 @@ public final class PromisesTest {
     }
 
     private static void byClauses() {
-        GuardedStreets x = fiveStreets();
+        GuardedStreets x = Made.fiveStreets();
         law(x, "steal 1 if street = 0; steal 2 if street = 1; steal 3 if street < 3; steal 4");
         int[] stolen = {1, 2, 3, 4, 4};
         for (int s = 0; s < 5; s++) {
@@ -441,7 +420,7 @@ public final class PromisesTest {
     }
 
     private static void byNeighbours() {
-        GuardedStreets x = fiveStreets();
+        GuardedStreets x = Made.fiveStreets();
         x.start(0);
         x.street(1, 1, true);
         x.beside(0, 5, true);
@@ -463,10 +442,10 @@ public final class PromisesTest {
     }
 
     private static void share() {
-        GuardedStreets x = fiveStreets();
-        book(x, 3, 10, 0, 4, 0, 9);
-        book(x, 4, 11, 0, 6);
-        book(x, 4, 11, 1, 50);
+        GuardedStreets x = Made.fiveStreets();
+        Made.book(x, 3, 10, 0, 4, 0, 9);
+        Made.book(x, 4, 11, 0, 6);
+        Made.book(x, 4, 11, 1, 50);
         due("13: together", x.share(3, 0, 10, 12, 0), 19);
         due("13: how many", x.share(3, 0, 10, 12, 1), 4);
         due("13: one WEEK", x.share(3, 0, 11, 11, 0), 6);
@@ -494,10 +473,10 @@ public final class PromisesTest {
     }
 
     private static void differ() {
-        GuardedStreets x = fiveStreets();
-        book(x, 0, 10, 0, 4, 6, 1, 2);
-        book(x, 3, 10, 0, 1, 2, 2, 4);
-        book(x, 4, 10, 0, 1, -1, 3, -1);
+        GuardedStreets x = Made.fiveStreets();
+        Made.book(x, 0, 10, 0, 4, 6, 1, 2);
+        Made.book(x, 3, 10, 0, 1, 2, 2, 4);
+        Made.book(x, 4, 10, 0, 1, -1, 3, -1);
         // (3/2 - 10/2) - (9/3 - 4/3) = -21/6 - 5/3 = -31/6
         dueDiffer(x, "over two WEEKS", 0, 3, 12, 2, new long[] {-31, 6, -5167});
         dueDiffer(x, "the other way round", 3, 0, 12, 2, new long[] {31, 6, 5166});
@@ -517,13 +496,13 @@ public final class PromisesTest {
         due("14: part 3", x.differ(0, 3, 0, 12, 1, 3), -2000000000);
         due("14: part -1", x.differ(0, 3, 0, 12, 1, -1), -2000000000);
         due("14: wild", x.differ(LEAST, MOST, LEAST, MOST, LEAST, MOST), -2000000000);
-        book(x, 0, 20, 0, 3, 3);
-        book(x, 3, 20, 0, 8, 8);
+        Made.book(x, 0, 20, 0, 3, 3);
+        Made.book(x, 3, 20, 0, 8, 8);
         dueDiffer(x, "no difference", 0, 3, 21, 1, new long[] {0, 1, 0});
     }
 
     private static void differAtTheEnds() {
-        GuardedStreets x = fiveStreets();
+        GuardedStreets x = Made.fiveStreets();
         for (int week = 0; week < 4; week++) {
             x.book(0, week, 0, week);
             x.book(3, week, 0, 0);
@@ -540,10 +519,10 @@ public final class PromisesTest {
     }
 
     private static void alike() {
-        GuardedStreets x = fiveStreets();
+        GuardedStreets x = Made.fiveStreets();
         // Differences of 0 from WEEK to WEEK: 2, 3, -6, none, none, 1, -1, 0.
-        book(x, 0, 0, 0, 1, 3, 6, 0, -1, 4, 5, 4, 4);
-        book(x, 3, 0, 0, 7, 7, 7, 7, 7, 7, 7, 7, 7);
+        Made.book(x, 0, 0, 0, 1, 3, 6, 0, -1, 4, 5, 4, 4);
+        Made.book(x, 3, 0, 0, 7, 7, 7, 7, 7, 7, 7, 7, 7);
         due("15: without START", x.alike(0, 3, 0, 1, 0), -2);
         x.start(8);
         due("15: how many", x.alike(0, 3, 0, 1, 0), 5);
@@ -575,24 +554,8 @@ public final class PromisesTest {
         due("15: wild", x.alike(LEAST, MOST, LEAST, MOST, LEAST), -1);
     }
 
-    /** DIFFER of 0 and 3 at START (3) over 1: -7/3; of 1 and 3: 5/3, with two STREETS of RING 1 and three of 3. */
-    private static GuardedStreets atThree() {
-        GuardedStreets x = fiveStreets();
-        x.street(1, 1, false);
-        x.street(9, 9, false);
-        x.beside(0, 6, true);
-        x.start(3);
-        book(x, 0, 2, 0, 5, 3);
-        book(x, 1, 2, 0, 1, 3);
-        book(x, 6, 2, 0, 0, 2);
-        book(x, 3, 2, 0, 1, 1);
-        book(x, 4, 2, 0, 0, 0);
-        book(x, 5, 2, 0, 3, 4);
-        return x;
-    }
-
     private static void off() {
-        GuardedStreets x = atThree();
+        GuardedStreets x = Made.atThree();
         due("16: DIFFER", x.differ(0, 3, 0, 3, 1, 2), -2334);
         due("16: OFF", x.off(1, 0), 2334);
         due("16: OFF over 2", x.off(2, 0), 2 * 2334);
@@ -614,7 +577,7 @@ public final class PromisesTest {
     }
 
     private static void thin() {
-        GuardedStreets x = atThree();
+        GuardedStreets x = Made.atThree();
         due("17: RING 1", x.thin(1, 1), 1167);
         due("17: RINGS 1 to 2", x.thin(1, 2), 778);
         due("17: RINGS 1 to 3", x.thin(1, 3), 389);
@@ -638,10 +601,10 @@ public final class PromisesTest {
     }
 
     private static void cars() {
-        GuardedStreets x = fiveStreets();
-        book(x, 3, 5, 0, 4, 6, 8, 1);
-        book(x, 4, 5, 0, 2);
-        book(x, 4, 6, 1, 9);
+        GuardedStreets x = Made.fiveStreets();
+        Made.book(x, 3, 5, 0, 4, 6, 8, 1);
+        Made.book(x, 4, 5, 0, 2);
+        Made.book(x, 4, 6, 1, 9);
         x.film(3, 5, 30);
         x.film(3, 6, 0);
         x.film(3, 8, 999);
@@ -672,11 +635,11 @@ public final class PromisesTest {
     }
 
     private static void edge() {
-        GuardedStreets x = fiveStreets();
+        GuardedStreets x = Made.fiveStreets();
         x.street(1, 1, true);
         x.start(4);
-        book(x, 0, 2, 0, 5, 2, 1, 0);
-        book(x, 5, 2, 0, 4, -1, 1, 2);
+        Made.book(x, 0, 2, 0, 5, 2, 1, 0);
+        Made.book(x, 5, 2, 0, 4, -1, 1, 2);
         // Since: 4 of 4; ahead: 11 of 3.
         due("19: over 2", x.edge(2), 272);
         due("19: over 1", x.edge(1), 500);
@@ -692,7 +655,7 @@ public final class PromisesTest {
         due("19: none since", x.edge(1), -2);
         x.start(-1);
         due("19: no START", x.edge(1), -2);
-        book(x, 0, 257, 0, 3, 2, 1);
+        Made.book(x, 0, 257, 0, 3, 2, 1);
         x.start(258);
         due("19: to the last WEEK", x.edge(2), 1500000 / 3000);
         x.start(259);
@@ -701,7 +664,7 @@ public final class PromisesTest {
     }
 
     private static void cost() {
-        GuardedStreets x = atThree();
+        GuardedStreets x = Made.atThree();
         due("20: upwards", x.cost(1, 7), 3);
         due("20: over 2 the same", x.cost(2, 7), 3);
         due("20: wage 1", x.cost(1, 1), 1);
@@ -753,7 +716,7 @@ public final class PromisesTest {
     }
 
     private static void like() {
-        GuardedStreets x = fiveStreets();
+        GuardedStreets x = Made.fiveStreets();
         due("22: the least apart", x.like(0), 4);
         x.street(100, 70, false);
         due("22: 60 apart by wish", x.like(0), 5);
@@ -783,7 +746,7 @@ public final class PromisesTest {
     }
 
     private static void deeds() {
-        GuardedStreets x = fiveStreets();
+        GuardedStreets x = Made.fiveStreets();
         due("23: without START", x.deeds(1, 0), -1);
         x.start(3);
         int[] since = {1, 4, 6, 0};
@@ -817,13 +780,13 @@ public final class PromisesTest {
     }
 
     private static void miss() {
-        GuardedStreets x = fiveStreets();
+        GuardedStreets x = Made.fiveStreets();
         x.start(3);
         law(x, "steal 2500; steal 1 if 1 = 1");
         due("24: without BOOKS", x.miss(0, 0, 259), 0);
-        book(x, 0, 2, 0, 2, 4, 0);
-        book(x, 3, 3, 0, 3);
-        book(x, 3, 3, 1, 99);
+        Made.book(x, 0, 2, 0, 2, 4, 0);
+        Made.book(x, 3, 3, 0, 3);
+        Made.book(x, 3, 3, 1, 99);
         due("24: above, without sign", x.miss(0, 2, 2), 500);
         due("24: two STREETS", x.miss(0, 3, 3), 2000);
         due("24: a BOOK of none", x.miss(0, 4, 4), 2500);
@@ -844,7 +807,7 @@ public final class PromisesTest {
     }
 
     private static void best() {
-        GuardedStreets x = fiveStreets();
+        GuardedStreets x = Made.fiveStreets();
         due("25: no LAWS", x.best(0, 1, 0, 0), -1);
         due("25: no LAWS, as bits", x.best(0, 1, 0, 1), 0);
         due("25: no LAWS, from above to", x.best(1, 0, 0, 0), -2);
@@ -873,7 +836,7 @@ public final class PromisesTest {
     }
 
     private static void run() {
-        GuardedStreets x = fiveStreets();
+        GuardedStreets x = Made.fiveStreets();
         law(x, "steal 1000 * street + 500 if week = 0; steal 2000");
         // From seed 0 the draws are 0, 468, 988, 117 and 498: below 500 are all but that of STREET 2.
         due("26: RING 0", x.run(0, 0, 0, 0, 0), 1);
@@ -906,20 +869,20 @@ public final class PromisesTest {
     }
 
     private static void towns() {
-        GuardedStreets x = fiveStreets();
+        GuardedStreets x = Made.fiveStreets();
         law(x, "steal 4000 if guard = 0; steal 1000");
         due("27: no START", x.towns(0, 0, 1, 1), -2);
         x.start(3);
         due("27: no DIFFER by the BOOKS", x.towns(0, 0, 1, 1), -2);
-        book(x, 0, 2, 0, 5, 2);
-        book(x, 3, 2, 0, 1, 1);
+        Made.book(x, 0, 2, 0, 5, 2);
+        Made.book(x, 3, 2, 0, 1, 1);
         due("27: equal to that by the BOOKS", x.towns(0, 0, 1, 60), 60);
         x.book(0, 3, 0, 1);
         due("27: above that", x.towns(0, 0, 1, 60), 0);
         law(x, "steal 4500 if guard = 0; steal 1000");
         due("27: one town", x.towns(1, 0, 1, 1), townsByHand(x, 1, 0, 1, 1));
-        book(x, 0, 1, 0, 6, 5, 2, 1);
-        book(x, 3, 1, 0, 1, 3, 2, 1);
+        Made.book(x, 0, 1, 0, 6, 5, 2, 1);
+        Made.book(x, 3, 1, 0, 1, 3, 2, 1);
         law(x, "steal 4700 - 1300 * guard - 90 * week + 77 * street");
         for (int seed = 0; seed < 40; seed++) {
             int k = 1 + seed % 2;
@@ -935,8 +898,8 @@ public final class PromisesTest {
         due("27: seed -1", x.towns(0, -1, 1, 1), -1);
         due("27: LAW 3", x.towns(3, 0, 1, 1), -1);
         due("27: wild", x.towns(LEAST, LEAST, MOST, MOST), -1);
-        book(x, 0, 258, 0, 5, 2);
-        book(x, 3, 258, 0, 1, 1);
+        Made.book(x, 0, 258, 0, 5, 2);
+        Made.book(x, 3, 258, 0, 1, 1);
         x.start(259);
         due("27: the last WEEK", x.towns(0, 7, 1, 3), 3);
         due("27: START + k - 1 above 259", x.towns(0, 7, 2, 3), -2);
@@ -965,7 +928,7 @@ public final class PromisesTest {
     }
 
     private static void plan() {
-        GuardedStreets x = fiveStreets();
+        GuardedStreets x = Made.fiveStreets();
         law(x, "steal 1000");
         law(x, "steal 1000 if guard = 0; steal 900 - 100 * street");
         due("28: the most", x.plan(1, 0, 0, 1), 16);
@@ -1058,7 +1021,7 @@ public final class PromisesTest {
     }
 
     private static void count() {
-        GuardedStreets x = fiveStreets();
+        GuardedStreets x = Made.fiveStreets();
         x.book(0, 0, 0, 0);
         x.book(0, 0, 3, 1);
         x.book(1, 0, 1, 1);
