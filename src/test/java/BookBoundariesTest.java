@@ -33,6 +33,7 @@ public final class BookBoundariesTest {
         differWithoutOneShare();
         differFromBelowZero();
         differToAbove259();
+        differOfTheseWeeksAlone();
         differInLowestTerms();
         differBelowAboveZero();
         differOfZero();
@@ -314,6 +315,23 @@ public final class BookBoundariesTest {
         x.book(0, 247, 0, 0);
         x.book(1, 247, 0, 0);
         dueDiffer(x, 248, 12, 5, 1, 5000);
+    }
+
+    private static void differOfTheseWeeksAlone() {
+        about("III: SHARE from w to w + n - 1, and from w - n to w - 1");
+        for (int street = 0; street < 2; street++) {
+            GuardedStreets x = booked(10, 0, 0, 0, 0, 0, 0);
+            x.book(street, 10, 0, 50);
+            x.book(street, 15, 0, 99);
+            dueDiffer(x, 13, 2, 0, 1, 0);
+            x.book(street, 11, 0, 2);
+            x.book(street, 12, 0, 4);
+            int sign = street == 0 ? 1 : -1;
+            dueDiffer(x, 13, 2, -3 * sign, 1, -3000 * sign);
+            x.book(street, 13, 0, 6);
+            x.book(street, 14, 0, 8);
+            dueDiffer(x, 13, 2, 4 * sign, 1, 4000 * sign);
+        }
     }
 
     private static void differInLowestTerms() {

@@ -70,6 +70,8 @@ public final class DrawBoundariesTest {
         imageOfAFullTown();
         backAsTheyWere();
         backToFewerStreets();
+        backToStreetsWhoseNumbersOthersTook();
+        aStreetWhoseNumberAnotherHad();
         backLeavesLawsAndTape();
         backToNeverMade();
         backWithoutIt();
@@ -840,6 +842,45 @@ public final class DrawBoundariesTest {
         due("no BOOK", x.book(1, 0, 0, NONE), -1);
         due("no FILM", x.film(1, 0, NONE), -1);
         due("no pairs", x.count(2), 0);
+    }
+
+    private static void backToStreetsWhoseNumbersOthersTook() {
+        about("30: STREETS as they were: cars, wish, house");
+        GuardedStreets x = withLaws(new GuardedStreets(), "steal cars", "steal wish", "steal house");
+        x.image(0);
+        x.street(11, 22, true);
+        x.image(1);
+        x.back(0);
+        x.street(33, 44, false);
+        x.image(2);
+        for (int i = 0; i < 2; i++) {
+            x.back(1);
+            due("cars", x.by(0, 0, 0, 0), 11);
+            due("wish", x.by(1, 0, 0, 0), 22);
+            due("house", x.by(2, 0, 0, 0), 1);
+            due("RING", x.ring(0), 0);
+            x.back(2);
+            due("cars", x.by(0, 0, 0, 0), 33);
+            due("wish", x.by(1, 0, 0, 0), 44);
+            due("house", x.by(2, 0, 0, 0), 0);
+            due("RING", x.ring(0), 3);
+        }
+    }
+
+    private static void aStreetWhoseNumberAnotherHad() {
+        about("30: STREETS as they were: a new one has nothing of one that is no more");
+        GuardedStreets x = new GuardedStreets();
+        x.street(1, 1, true);
+        x.image(0);
+        x.street(2, 2, false);
+        x.beside(0, 1, true);
+        x.back(0);
+        due("street", x.street(3, 3, false), 1);
+        due("RING", x.ring(1), 3);
+        due("pairs", x.count(2), 0);
+        due("beside", x.beside(1, 0, true) ? 1 : 0, 1);
+        due("RING", x.ring(1), 1);
+        due("pairs", x.count(2), 1);
     }
 
     private static void backLeavesLawsAndTape() {

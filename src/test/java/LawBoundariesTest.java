@@ -25,6 +25,7 @@ public final class LawBoundariesTest {
         minusGoesRound();
         termsAheadOfSums();
         signsOfTests();
+        signsWithinNotAndAnd();
         andAheadOfOr();
         notOfTheNextFactAlone();
         firstClauseOfItsSort();
@@ -250,6 +251,23 @@ public final class LawBoundariesTest {
             dueTest("7" + signs[i] + "cars", equal[i]);
             dueTest("8" + signs[i] + "cars", above[i]);
             dueTest("0-1" + signs[i] + "0", below[i]);
+        }
+    }
+
+    private static void signsWithinNotAndAnd() {
+        about("II: FACT: not FACT | [ TEST ] | SUM SIGN SUM");
+        String[] holding = {"6<cars", "7<=cars", "7=cars", "7>=cars", "8>cars", "[7=cars]", "not 6=cars"};
+        String[] failing = {"7<cars", "8<=cars", "8=cars", "6>=cars", "7>cars", "[8=cars]", "not 7=cars"};
+        for (int i = 0; i < holding.length; i++) {
+            dueTest("not " + holding[i], false);
+            dueTest("not " + failing[i], true);
+            dueTest("not not " + holding[i], true);
+            for (int k = 0; k < holding.length; k++) {
+                dueTest(holding[i] + " and " + holding[k], true);
+                dueTest(holding[i] + " and " + failing[k], false);
+                dueTest(failing[i] + " or " + holding[k], true);
+                dueTest(failing[i] + " or " + failing[k], false);
+            }
         }
     }
 

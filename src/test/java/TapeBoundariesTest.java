@@ -30,6 +30,7 @@ public final class TapeBoundariesTest {
         aNumberOfMoreDigits();
         digitsAsFarAsTheyGoOn();
         smallLettersAsFarAsTheyGo();
+        wordsOneLetterOff();
         wordsThatCantStand();
         clausesThatCantStand();
         bytesThatCantStand();
@@ -51,6 +52,7 @@ public final class TapeBoundariesTest {
         theFirstAlongTheText();
         ofOnePlaceTheLeast();
         eachTextIsReadAnew();
+        eachLawIsItsOwn();
         Due.end();
     }
 
@@ -330,6 +332,36 @@ public final class TapeBoundariesTest {
         dueFault("steal cars_", 10, 0);
     }
 
+    private static void wordsOneLetterOff() {
+        about("II: FAULT 0 a WORD that can't stand there: one letter off");
+        String[] words = {"cars", "wish", "guard", "ring", "week", "since", "house", "street"};
+        for (String word : words) {
+            dueOneLetterOff("steal ", word, "", 6);
+        }
+        String[] sorts = {"steal", "moves", "told"};
+        for (String sort : sorts) {
+            dueOneLetterOff("", sort, " 1", 0);
+        }
+        dueOneLetterOff("steal 1 ", "if", " 1=1", 8);
+        dueOneLetterOff("steal 1 if ", "not", " 1=1", 11);
+        dueOneLetterOff("steal 1 if 1=1 ", "and", " 1=1", 15);
+        dueOneLetterOff("steal 1 if 1=1 ", "or", " 1=1", 15);
+    }
+
+    private static void dueOneLetterOff(String before, String word, String behind, int place) {
+        dueRight(before + word + behind);
+        for (int i = 0; i <= word.length(); i++) {
+            String start = word.substring(0, i);
+            dueFault(before + start + "x" + word.substring(i) + behind, place, 0);
+            if (i < word.length()) {
+                String rest = word.substring(i + 1);
+                dueFault(before + start + "x" + rest + behind, place, 0);
+                dueFault(before + start + (char) (word.charAt(i) + 1) + rest + behind, place, 0);
+                dueFault(before + start + rest + behind, place, 0);
+            }
+        }
+    }
+
     private static void wordsThatCantStand() {
         about("II: FAULT 0 a WORD that can't stand there");
         dueFault("steal foo", 6, 0);
@@ -451,6 +483,8 @@ public final class TapeBoundariesTest {
         dueFault(" ".repeat(395) + "steal", 400, 0);
         dueFault("steal" + " ".repeat(395), 400, 0);
         dueFault(" ".repeat(400), 400, 0);
+        dueFault(" ".repeat(399) + "?", 399, 0);
+        dueFault(" ".repeat(399) + "s", 399, 0);
         dueFault("steal " + "1".repeat(394), 6, 1);
         dueFault("s".repeat(400), 0, 0);
     }
@@ -589,5 +623,17 @@ public final class TapeBoundariesTest {
         due("ten deep", Due.law(x, "told 1 if " + "[".repeat(10) + "1=1" + "]".repeat(10)), 4);
         due("sixty-one VALUES", Due.law(x, SIXTY + "+1"), -2 - (1 + 8 * 126 + 3));
         due("sixty VALUES once more", Due.law(x, SIXTY), 5);
+    }
+
+    private static void eachLawIsItsOwn() {
+        about("11: The TAPE is a LAW: eight of sixty VALUES");
+        GuardedStreets x = Made.oneStreet();
+        for (int i = 0; i < 8; i++) {
+            due("law", Due.law(x, SIXTY + ";told 1 if 1=1 ?"), -2 - (1 + 8 * 131 + 3));
+            due("law", Due.law(x, "steal cars+" + i + "+1".repeat(58)), i);
+        }
+        for (int i = 0; i < 8; i++) {
+            due("STOLEN by " + i, x.by(i, 0, 0, 0), 7 + i + 58);
+        }
     }
 }
