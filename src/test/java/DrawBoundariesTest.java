@@ -76,6 +76,7 @@ public final class DrawBoundariesTest {
         backToNeverMade();
         backWithoutIt();
         backAgainAndAgain();
+        askingChangesNothing();
         Due.end();
     }
 
@@ -940,5 +941,29 @@ public final class DrawBoundariesTest {
             due("STREETS", x.count(1), 2);
             due("BOOK", x.book(0, 0, 0, 10 + i), 5);
         }
+    }
+
+    private static void askingChangesNothing() {
+        about("12 to 28: what is asked twice, with all else asked between, is answered alike, and nothing happens");
+        GuardedStreets x = withLaws(atOne(5, 3), "steal 5000 - 2000 * guard; moves 900", "steal 700 * since; told 7");
+        x.street(8, 8, false);
+        x.beside(0, 2, true);
+        Made.book(x, 2, 0, 0, 1, 2);
+        x.film(0, 0, 30);
+        String before = State.of(x);
+        long[] first = asked(x);
+        long[] second = asked(x);
+        for (int i = 0; i < first.length; i++) {
+            due("the answer " + i + " again", second[i], first[i]);
+        }
+        Due.due("nothing happens", State.of(x).equals(before), true);
+    }
+
+    private static long[] asked(GuardedStreets x) {
+        return new long[] {x.by(0, 2, 1, 4), x.share(0, 0, 0, 1, 0), x.plan(1, 1, 0, 1), x.by(1, 0, 9, 0), x.best(0, 1, 50, 1),
+            x.differ(0, 3, 0, 1, 1, 0), x.where(0, 0), x.differ(0, 1, 0, 1, 1, 2), x.towns(0, 7, 1, 20), x.miss(0, 0, 1),
+            x.run(0, 7, 0, 40, 3), x.alike(0, 3, 0, 1, 0), x.off(1, 0), x.off(1, 1), x.thin(1, 2), x.cars(0, 0, 1), x.edge(1),
+            x.plan(2, 0, 1, 0), x.cost(1, 40), x.like(0), x.deeds(1, 0), x.run(1, 7, 0, 9, 0), x.miss(1, 0, 259), x.where(1, 1),
+            x.best(0, 259, 0, 0), x.by(0, 2, 0, 4), x.by(0, 0, 1, 1)};
     }
 }

@@ -64,6 +64,7 @@ public final class StreetBoundariesTest {
         countOfFilmsThatTellSomething();
         countOfPairs();
         countOfOthers();
+        theLastOfAllCalls();
         Due.end();
     }
 
@@ -528,6 +529,7 @@ public final class StreetBoundariesTest {
         GuardedStreets x = Made.busy();
         String before = State.of(x);
         due("WEEK 2", x.book(0, 2, 0, 1), -2);
+        due("WEEK 2, nothing", x.book(0, 2, 0, NONE), -2);
         due("WEEK 259", x.book(0, 259, 0, 1), -2);
         dueNothingHappened(x, before);
         due("WEEK 1", x.book(0, 1, 0, 1), -1);
@@ -628,6 +630,7 @@ public final class StreetBoundariesTest {
         GuardedStreets x = Made.busy();
         String before = State.of(x);
         due("WEEK 2", x.film(0, 2, 1), -2);
+        due("WEEK 2, nothing", x.film(0, 2, NONE), -2);
         due("WEEK 259", x.film(0, 259, 1), -2);
         dueNothingHappened(x, before);
         due("WEEK 1", x.film(1, 1, 1), -1);
@@ -757,5 +760,20 @@ public final class StreetBoundariesTest {
         due("count(7)", x.count(7), -1);
         due("count(least)", x.count(LEAST), -1);
         due("count(most)", x.count(MOST), -1);
+    }
+
+    private static void theLastOfAllCalls() {
+        about("An object is used for at most 512 calls");
+        GuardedStreets x = new GuardedStreets();
+        for (int call = 1; call < 512; call++) {
+            due("call " + call, x.street(1, 1, false), call <= 24 ? call - 1 : -1);
+        }
+        due("call 512", x.count(1), 24);
+        GuardedStreets y = Made.oneStreet();
+        y.clock(259);
+        for (int call = 3; call < 512; call++) {
+            due("call " + call, y.book(0, call % 260, call / 260, call % 100), -1);
+        }
+        due("call 512", y.count(3), 509);
     }
 }
