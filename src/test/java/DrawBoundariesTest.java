@@ -61,6 +61,7 @@ public final class DrawBoundariesTest {
         planWithoutStreets();
         planOfLikeLaws();
         planOfMenInJustThose();
+        planOfMenInNoneFromTenOn();
         planWhoMayBeGoneTo();
         planRingAsItIs();
         planWithoutThese();
@@ -697,6 +698,14 @@ public final class DrawBoundariesTest {
         due("also ahead of START", x.plan(1, 5, 0, 2), 1);
         x.start(NONE);
         due("also without START", x.plan(1, 5, 0, 2), 1);
+    }
+
+    private static void planOfMenInNoneFromTenOn() {
+        about("28: as if MEN stood in just those of a set: in none of the STREETS from 10 on");
+        GuardedStreets x = withLaws(houses(11), "steal 1000 if guard = 0; moves 1000", "steal 1000 if guard = 0");
+        x.start(0);
+        x.beside(9, 10, true);
+        due("9, from which all goes to 10", x.plan(1, 5, 0, 1), 512);
     }
 
     private static void planWhoMayBeGoneTo() {
