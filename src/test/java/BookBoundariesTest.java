@@ -639,6 +639,8 @@ public final class BookBoundariesTest {
         due("RING 1", x.thin(1, 1), -2);
         due("RINGS 1 to 2", x.thin(1, 2), -2);
         due("RINGS 1 to 3", x.thin(1, 3), 2000);
+        x.book(0, 1, 0, 9);
+        due("RING 1, with OFF below 0", x.thin(1, 1), -2);
     }
 
     private static void thinWithoutOff() {
