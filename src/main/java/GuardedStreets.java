@@ -1310,15 +1310,30 @@ public final class GuardedStreets {
         /** EXPECTED of all STREETS, with men in this set. */
         void expectWith(Town town, int men) {
             for (int s = 0; s < town.size && s < going.length; s++) {
-                int open = Integer.bitCount(town.neighboursOf(s) & ~men);
-                int at = (men >> s & 1) * STREETS + s;
-                going[s] = open == 0 ? 0 : kept[at] * moves[at] / 1000 / open;
+                going[s] = goingFrom(town, s, men);
             }
             for (int s = 0; s < town.size && s < expected.length; s++) {
-                int at = (men >> s & 1) * STREETS + s;
-                long all = stolen[at] + ((men >> s & 1) == 1 ? 0 : comingFrom(town.neighboursOf(s), town.size));
-                expected[s] = (int) (all * told[at] / 1000);
+                int at = placeOf(s, men);
+                if (at >= 0 && at < stolen.length && at < told.length) {
+                    boolean isGuarded = (men >> s & 1) == 1;
+                    long all = stolen[at] + (isGuarded ? 0 : comingFrom(town.neighboursOf(s), town.size));
+                    expected[s] = (int) (all * told[at] / 1000);
+                }
             }
+        }
+
+        /** Where a STREET stands in the rows, with men in this set. */
+        private static int placeOf(int street, int men) {
+            return (men >> street & 1) * STREETS + street;
+        }
+
+        private int goingFrom(Town town, int street, int men) {
+            int open = Integer.bitCount(town.neighboursOf(street) & ~men);
+            int at = placeOf(street, men);
+            if (open == 0 || at < 0 || at >= kept.length || at >= moves.length) {
+                return 0;
+            }
+            return kept[at] * moves[at] / 1000 / open;
         }
 
         private long comingFrom(int neighbours, int size) {
@@ -1335,7 +1350,7 @@ public final class GuardedStreets {
 
         /** What 0: STOLEN, 1: KEPT OFF, 2: MOVES, 3: TOLD, 4: EXPECTED. */
         int answer(int street, int men, int what) {
-            int at = (men >> street & 1) * STREETS + street;
+            int at = placeOf(street, men);
             if (at < 0 || at >= stolen.length) {
                 return NONE;
             }
